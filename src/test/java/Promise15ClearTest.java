@@ -14,6 +14,8 @@ public final class Promise15ClearTest {
         CHECK.same("one cover", "0 0 4 3", Pages.cover(page, 0));
         CHECK.same("width", 4, page.told(0));
         CHECK.same("height", 3, page.told(1));
+        page.clear();
+        CHECK.same("no longer parted, though it was white", -1, page.told(3));
         CHECK.same("noise", 3, page.noise(9));
         page.clear();
         CHECK.same("a white page with another noise", 3, page.noise(3));
