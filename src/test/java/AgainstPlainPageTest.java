@@ -15,7 +15,7 @@ public final class AgainstPlainPageTest {
     private static void onePage(Random random, int number) {
         int width = 1 + random.nextInt(24);
         int height = 1 + random.nextInt(24);
-        PageParts page = new PageParts(width, height);
+        Fresh page = new Fresh(width, height);
         boolean[][] black = new boolean[height][width];
         int noise = 3;
         // The second and third time, what was parted before must not show.
@@ -23,20 +23,25 @@ public final class AgainstPlainPageTest {
             change(random, page, black);
             if (random.nextInt(3) > 0) {
                 int next = random.nextInt(10) == 0 ? random.nextInt(101) : random.nextInt(6);
-                CHECK.same("page " + number + " noise", noise, page.noise(next));
+                setNoise(page, noise, next);
                 noise = next;
             }
             int most = random.nextInt(4) == 0 ? 25 : 4;
             int gapX = random.nextInt(most);
             int gapY = random.nextInt(most);
-            page.run(gapX, gapY);
+            page.change(one -> one.run(gapX, gapY));
             String due = new PlainPage(black, noise, gapX, gapY).all();
             CHECK.same("page " + number + " time " + time, due, Pages.all(page));
         }
+        CHECK.same("calls are left to ask", true, page.changes() < Pages.MOST_CALLS - 50);
     }
 
-    private static void change(Random random, PageParts page, boolean[][] black) {
-        int samples = random.nextInt(3) == 0 ? random.nextInt(250) : random.nextInt(12);
+    private static void setNoise(Fresh page, int before, int next) {
+        page.change(one -> CHECK.same("noise(" + next + ")", before, one.noise(next)));
+    }
+
+    private static void change(Random random, Fresh page, boolean[][] black) {
+        int samples = random.nextInt(3) == 0 ? random.nextInt(110) : random.nextInt(12);
         for (int i = 0; i < samples; i++) {
             rectangle(random, page, black, 1, random.nextInt(3) > 0);
         }
@@ -49,13 +54,13 @@ public final class AgainstPlainPageTest {
         }
     }
 
-    private static void rectangle(Random random, PageParts page, boolean[][] black, int most, boolean value) {
+    private static void rectangle(Random random, Fresh page, boolean[][] black, int most, boolean value) {
         int x = random.nextInt(black[0].length);
         int y = random.nextInt(black.length);
         paint(page, black, new int[] {x, y, 1 + random.nextInt(most), 1 + random.nextInt(most)}, value);
     }
 
-    private static void hollow(Random random, PageParts page, boolean[][] black) {
+    private static void hollow(Random random, Fresh page, boolean[][] black) {
         int x = random.nextInt(black[0].length);
         int y = random.nextInt(black.length);
         int wide = 3 + random.nextInt(20);
@@ -66,7 +71,7 @@ public final class AgainstPlainPageTest {
         }
     }
 
-    private static void paint(PageParts page, boolean[][] black, int[] box, boolean value) {
+    private static void paint(Fresh page, boolean[][] black, int[] box, boolean value) {
         int changed = 0;
         for (int y = box[1]; y < Math.min(box[1] + box[3], black.length); y++) {
             for (int x = box[0]; x < Math.min(box[0] + box[2], black[0].length); x++) {
@@ -74,6 +79,7 @@ public final class AgainstPlainPageTest {
                 black[y][x] = value;
             }
         }
-        CHECK.same("fill", changed, page.fill(box[0], box[1], box[2], box[3], value));
+        int due = changed;
+        page.change(one -> CHECK.same("fill", due, one.fill(box[0], box[1], box[2], box[3], value)));
     }
 }

@@ -34,7 +34,7 @@ final class Check {
     }
 
     /** Exactly this class: what the machine throws by itself is of a class below it. */
-    private void throwing(String call, Class<?> due, Runnable body) {
+    void throwing(String call, Class<?> due, Runnable body) {
         asked++;
         String got = "nothing";
         try {

@@ -321,13 +321,16 @@ final class PlainPage {
             numbers.add(k);
             addPart(k, text);
         }
+        text.append("\norder");
+        for (int k : order(numbers)) {
+            text.append(' ').append(k);
+        }
         for (int[] one : covers) {
             text.append("\ncover ").append(joined(one));
         }
         for (List<int[]> one : cells) {
             text.append("\ncell ").append(joined(box(one))).append(' ').append(one.size());
         }
-        text.append("\norder ").append(joined(order(numbers).stream().mapToInt(k -> k).toArray()));
         text.append("\nstrips ").append(joined(strips));
         for (int y = 0; y < height; y++) {
             text.append('\n');

@@ -57,13 +57,8 @@ public final class Promise09OrderTest {
     private static void manyParts() {
         // A board of chess: all gaps are 0, so it goes column by column.
         int side = 20;
-        PageParts page = new PageParts(side, side);
+        PageParts page = Pages.chess(side, side);
         page.noise(0);
-        for (int y = 0; y < side; y++) {
-            for (int x = y % 2; x < side; x += 2) {
-                page.put(x, y, true);
-            }
-        }
         CHECK.same("parts", side * side / 2, page.run(0, 0));
         int place = 0;
         for (int x = 0; x < side; x++) {

@@ -7,32 +7,21 @@ public final class Promise13IsSpeckTest {
         CHECK.end();
     }
 
-    private static String specksMap(PageParts page) {
-        StringBuilder text = new StringBuilder();
-        for (int y = 0; y < page.told(1); y++) {
-            for (int x = 0; x < page.told(0); x++) {
-                text.append(page.isSpeck(x, y) ? '!' : '.');
-            }
-            text.append('/');
-        }
-        return text.toString();
-    }
-
     private static void specks() {
         PageParts page = Pages.draw("#....##", ".#.....", "...#...", "..#....", "...#.#.");
         page.run(0, 0);
-        CHECK.same("less than 3, by sides and corners", "!....!!/.!...../......./......./.....!./", specksMap(page));
+        CHECK.same("less than 3, by sides and corners", "!....!!/.!...../......./......./.....!./", Pages.specksMap(page));
         page.run(24, 24);
-        CHECK.same("gaps do not matter", "!....!!/.!...../......./......./.....!./", specksMap(page));
+        CHECK.same("gaps do not matter", "!....!!/.!...../......./......./.....!./", Pages.specksMap(page));
         page.noise(2);
         page.run(0, 0);
-        CHECK.same("less than 2", "......./......./......./......./.....!./", specksMap(page));
+        CHECK.same("less than 2", "......./......./......./......./.....!./", Pages.specksMap(page));
         page.noise(1);
         page.run(0, 0);
-        CHECK.same("less than 1", "......./......./......./......./......./", specksMap(page));
+        CHECK.same("less than 1", "......./......./......./......./......./", Pages.specksMap(page));
         page.noise(4);
         page.run(0, 0);
-        CHECK.same("less than 4", "!....!!/.!...../...!.../..!..../...!.!./", specksMap(page));
+        CHECK.same("less than 4", "!....!!/.!...../...!.../..!..../...!.!./", Pages.specksMap(page));
     }
 
     private static void wrongInputs() {
