@@ -4,7 +4,7 @@ import java.lang.reflect.Modifier;
 import java.nio.file.Files;
 import java.nio.file.Path;
 
-/** README.md's example, with the answers that are written beside it there. */
+/** A copy of README.md's example, with the answers that are written beside it there. */
 public final class ReadmeTest {
     private static final Check CHECK = new Check();
 
